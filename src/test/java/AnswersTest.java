@@ -12,11 +12,13 @@ public final class AnswersTest {
         meanAsBits();
         cheapestBlends();
         cheapestOfSeveral();
+        cheapestAtTheBounds();
         swaps();
         swapsOfBrokenBlends();
         looserBounds();
         days();
         grams();
+        fiveLeaves();
         DUE.end();
     }
 
@@ -62,10 +64,25 @@ public final class AnswersTest {
         for (int what = 0; what <= 5; what++) {
             DUE.due("12: blend(" + what + ")", x.blend(what), then[what]);
         }
+        x.share(1, 6);
+        x.row(0, Due.row(-1));
+        x.share(2, 5);
+        DUE.due("12: (3 * 9 + 6 * 999 + 5 * 5) / 20", x.blend(0), 302);
+        x.share(2, 0);
+        x.row(0, Due.row(-5));
+        x.share(1, 0);
+        x.share(2, 1);
+        DUE.due("12: (3 * 5 + 5) / 20", x.blend(0), 1);
+        x.row(2, Due.row(-1));
+        DUE.due("12: (3 * 5 + 4) / 20", x.blend(0), 0);
+        x.share(2, 0);
+        x.share(1, 13);
         x.row(0, Due.row(0, 9));
         x.pass(1);
         DUE.due("12: (3 * 19 + 13 * 999) / 20", x.blend(0), 652);
         DUE.due("12: (3 * 99 + 13 * 0) / 20", x.blend(1), 14);
+        x.share(1, 1);
+        DUE.due("12: a leaf with one share", x.blend(5), 3);
         DUE.due("12: blend(6)", x.blend(6), TeaBlends.BAD_VALUE);
         DUE.due("12: blend(-1)", x.blend(-1), TeaBlends.BAD_VALUE);
     }
@@ -138,6 +155,8 @@ public final class AnswersTest {
         DUE.due("15: taste(-1)", x.taste(-1), 0);
         for (int taste = 1; taste <= 100; taste++) {
             x = Due.shopOf(Due.tastes(taste, taste, 100 - taste), 1);
+            x.share(0, 20);
+            DUE.due("15: 20 * " + taste + " / 20", x.taste(0), Double.doubleToLongBits(taste));
             x.share(0, 7);
             DUE.due("15: 7 * " + taste, x.taste(1), Double.doubleToLongBits(7 * taste / 20.0));
             DUE.due("15: 7 * (100 - " + taste + ")", x.taste(2), Double.doubleToLongBits(7 * (100 - taste) / 20.0));
@@ -246,6 +265,27 @@ public final class AnswersTest {
         }
     }
 
+    private static void cheapestAtTheBounds() {
+        TeaBlends x = new TeaBlends();
+        x.leaf(9, Due.tastes(20, 0, 0), 0);
+        x.leaf(8, Due.tastes(40, 0, 39), 0);
+        x.leaf(9, Due.tastes(0, 0, 0), 0);
+        x.bound(2, 0, 0);
+        DUE.due("17: 39 / 20 is above 0", x.cheapest(2), 0);
+        x.bound(2, 0, 1);
+        DUE.due("17: 39 / 20 is not above 1", x.cheapest(2), 1);
+        DUE.due("17: the leaf 0", x.cheapest(1), 19);
+        x.bound(2, 0, 100);
+        x.bound(0, 29, 30);
+        DUE.due("17: 20 * 20 + 20 * 10 = 30 * 20, and 19", x.cheapest(2), 15);
+        DUE.due("17: the leaf 2 then", x.cheapest(3), 5);
+        x = Due.shopOf(MILD, 9, 8, 7);
+        DUE.due("17: all of the leaf 2", x.cheapest(3), 20);
+        x.undo();
+        DUE.due("17: no leaf 2 any more", x.cheapest(3), 0);
+        DUE.due("17: all of the leaf 1 now", x.cheapest(2), 20);
+    }
+
     private static void swaps() {
         TeaBlends x = Due.shopOf(MILD, 30, 10, 30, 10);
         x.share(0, 5);
@@ -288,6 +328,23 @@ public final class AnswersTest {
         x.bound(2, 5, 100);
         DUE.due("18: a scent of 5", x.swap(1), 2);
         DUE.due("18: 50 - 10", x.swap(2), 40);
+        x.bound(2, 0, 100);
+        x.bound(0, 93, 100);
+        x.pass(1);
+        DUE.due("18: (19 * 99 + 0) / 20 today", x.swap(2), 40);
+        x.bound(0, 94, 100);
+        DUE.due("18: (20 * 99 - 98) / 20 it is not", x.swap(2), 40);
+        x.bound(0, 95, 100);
+        DUE.due("18: 95 today it is not", x.swap(2), TeaBlends.NONE);
+        x = new TeaBlends();
+        x.set(TeaBlends.FADE, 50);
+        x.leaf(50, Due.tastes(100, 0, 0), 0);
+        x.leaf(20, Due.tastes(19, 0, 0), 0);
+        x.share(0, 20);
+        x.bound(0, 95, 100);
+        DUE.due("18: (19 * 100 + 19) / 20", x.swap(2), 30);
+        x.bound(0, 96, 100);
+        DUE.due("18: it is not 96", x.swap(2), TeaBlends.NONE);
     }
 
     private static void looserBounds() {
@@ -301,6 +358,8 @@ public final class AnswersTest {
         DUE.due("19: 8 shares to 7", x.looser(0), 50);
         x.bound(0, 37, 100);
         DUE.due("19: 8 shares still", x.looser(0), 0);
+        x.bound(0, 1, 100);
+        DUE.due("19: 1 share to 0", x.looser(0), 50);
         x.bound(0, 0, 100);
         x.bound(1, 0, 64);
         DUE.due("19: 8 shares to 7 by the high bound", x.looser(4), 50);
@@ -400,11 +459,48 @@ public final class AnswersTest {
         DUE.due("21: 100 less 17", x.mostGrams(), 83);
         x.bound(0, 51, 100);
         DUE.due("21: broken", x.mostGrams(), 0);
+        x.bound(0, 50, 100);
+        DUE.due("21: kept today alone", x.mostGrams(), 83);
+        x.bound(0, 0, 100);
+        x.share(0, 19);
+        x.share(2, 1);
+        DUE.due("21: a share of 1", x.mostGrams(), 0);
+        x.share(2, 0);
         x.bound(0, 0, 100);
         x.share(0, 10);
         x.share(1, 10);
         x.buy(0, 9000);
         x.buy(1, 9000);
         DUE.due("21: at most 9999", x.mostGrams(), 9999);
+    }
+
+    private static void fiveLeaves() {
+        TeaBlends x = Due.shopOf(MILD, 10, 20, 30, 40, 50);
+        x.share(4, 1);
+        x.share(3, 2);
+        x.share(2, 3);
+        x.share(1, 4);
+        DUE.due("12: five leaves, all shares", x.share(0, 10), 20);
+        DUE.due("12: five leaves, the price", x.blend(0), 20);
+        DUE.due("12: five leaves, a taste", x.blend(3), 50);
+        DUE.due("12: five leaves, the set", x.blend(5), 31);
+        DUE.due("13: five leaves", x.why(), 0);
+        DUE.due("15: five leaves", x.taste(0), Double.doubleToLongBits(50.0));
+        DUE.due("17: five leaves", x.cheapest(5), 0);
+        DUE.due("18: five leaves, from", x.swap(0), 4);
+        DUE.due("18: five leaves, to", x.swap(1), 0);
+        DUE.due("18: five leaves, by how much", x.swap(2), 40);
+        DUE.due("19: five leaves", x.looser(0), 0);
+        DUE.due("20: five leaves", x.keepsFor(), TeaBlends.NONE);
+        DUE.due("21: five leaves", x.mostGrams(), 2000);
+        DUE.due("9: five leaves", x.mix(41), 20);
+        int[] left = {979, 991, 993, 995, 997};
+        for (int leaf = 0; leaf < 5; leaf++) {
+            DUE.due("9: of(" + leaf + ", 4)", x.of(leaf, 4), left[leaf]);
+        }
+        DUE.due("10: five leaves", x.pass(1), 1);
+        DUE.due("10: the fifth is older", x.of(4, 5), 1);
+        DUE.due("8: five leaves", x.choose(), 10);
+        DUE.due("8: nothing of the fifth", x.of(4, 6), 0);
     }
 }

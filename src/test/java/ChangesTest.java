@@ -256,6 +256,10 @@ public final class ChangesTest {
         x.share(0, 0);
         x.share(1, 20);
         DUE.due("9: a stock of 0 without share", x.mix(1), 20);
+        x.bound(0, 50, 100);
+        DUE.due("9: kept today alone", x.mix(1), 20);
+        x.pass(1);
+        DUE.due("9: and no more tomorrow", x.mix(1), TeaBlends.NOT_POSSIBLE);
     }
 
     private static void passing() {

@@ -36,6 +36,13 @@ public final class FaceTest {
             }
         }
         compare("constants", constants, CONSTANTS);
+        for (Class<?> inside : TeaBlends.class.getDeclaredClasses()) {
+            DUE.due(inside + " is private and static", inside.getModifiers() & (Modifier.PRIVATE | Modifier.STATIC),
+                Modifier.PRIVATE | Modifier.STATIC);
+            for (Method method : inside.getDeclaredMethods()) {
+                hidden.add(method.getName());
+            }
+        }
         for (Method method : TeaBlends.class.getMethods()) {
             DUE.due("a private method " + method.getName(), hidden.contains(method.getName()) ? 1 : 0, 0);
         }

@@ -12,6 +12,7 @@ public final class TextsAndUndoTest {
         ordersWithErrors();
         undoing();
         undoingEachChange();
+        wholeStates();
         saving();
         restoring();
         DUE.end();
@@ -269,6 +270,63 @@ public final class TextsAndUndoTest {
         DUE.due("26: as it was saved", x.of(0, 0), 10);
     }
 
+    /** All that can be asked of the state of a shop, but for its pad and its history. */
+    private static String state(TeaBlends x) {
+        StringBuilder state = new StringBuilder();
+        for (int leaf = 0; leaf < 5; leaf++) {
+            for (int what = 0; what < 7; what++) {
+                state.append(x.of(leaf, what)).append(' ');
+            }
+        }
+        for (int what = 0; what < 12; what++) {
+            state.append(x.count(what)).append(' ');
+        }
+        return state.append(x.mean()).toString();
+    }
+
+    private static int change(TeaBlends x, int kind) {
+        switch (kind) {
+            case 0: return x.set(TeaBlends.FADE, 77);
+            case 1: return x.leaf(77, Due.tastes(7, 7, 7), 77);
+            case 2: return x.row(1, Due.row(7, 7, 7, 7, 7, 7, 7));
+            case 3: return x.buy(1, 777);
+            case 4: return x.bound(2, 7, 77);
+            case 5: return x.share(2, 1);
+            case 6: return x.choose();
+            case 7: return x.mix(77);
+            case 8: return x.pass(7);
+            case 9: return x.carryOut();
+            default: return x.restore(0);
+        }
+    }
+
+    /** Each change alone, then a second one over it, undone step by step; and all of it kept in a slot. */
+    private static void wholeStates() {
+        for (int kind = 0; kind <= 10; kind++) {
+            TeaBlends x = Due.shopOf(MILD, 30, 20, 40);
+            x.save(0);
+            x.share(0, 12);
+            x.share(2, 8);
+            x.mix(500);
+            x.pass(3);
+            x.row(0, Due.row(0, 0, 0, -4));
+            Due.write(x, "d5;m9;s2=1;+1:2,3,4*5");
+            String before = state(x);
+            x.save(1);
+            DUE.due("26: change " + kind, change(x, kind) >= 0 ? 1 : 0, 1);
+            String then = state(x);
+            DUE.due("26: it changes something, " + kind, then.equals(before) ? 1 : 0, 0);
+            DUE.due("26: a second change over it, " + kind, change(x, kind == 8 ? 0 : 8) >= 0 ? 1 : 0, 1);
+            x.undo();
+            DUE.due("26: the second one undone, " + kind, state(x).equals(then) ? 1 : 0, 1);
+            x.undo();
+            DUE.due("26: the first one undone, " + kind, state(x).equals(before) ? 1 : 0, 1);
+            change(x, kind);
+            x.restore(1);
+            DUE.due("28: all restored, " + kind, state(x).equals(before) ? 1 : 0, 1);
+        }
+    }
+
     private static void saving() {
         TeaBlends x = new TeaBlends();
         DUE.due("27: save(-1)", x.save(-1), TeaBlends.BAD_VALUE);
@@ -283,6 +341,17 @@ public final class TextsAndUndoTest {
         x.undo();
         DUE.due("27: restore(0) then", x.restore(0), 2);
         DUE.due("27: the second leaf", x.of(1, 0), 2);
+        x = new TeaBlends();
+        x.leaf(5, MILD, 6);
+        x.save(0);
+        x.undo();
+        x.leaf(6, Due.tastes(1, 2, 3), 7);
+        DUE.due("27: one leaf for another", x.restore(0), 1);
+        DUE.due("27: its price", x.of(0, 0), 5);
+        DUE.due("27: its scent", x.of(0, 3), 50);
+        x.undo();
+        DUE.due("27: the other leaf's price", x.of(0, 0), 6);
+        DUE.due("27: the other leaf's scent", x.of(0, 3), 3);
     }
 
     private static void restoring() {
