@@ -2,13 +2,19 @@
 final class Due {
     private int right = 0;
     private int wrong = 0;
+    private String words = "";
+
+    /** The words of the document by which the answers that follow are due. */
+    void by(String sentence) {
+        words = sentence + " | ";
+    }
 
     void due(String call, long got, long want) {
         if (got == want) {
             right++;
         } else {
             wrong++;
-            System.out.println(call + " answered " + got + ", due is " + want);
+            System.out.println(words + call + " answered " + got + ", due is " + want);
         }
     }
 
@@ -48,6 +54,13 @@ final class Due {
             answer = shop.put(characters(text.substring(i, Math.min(text.length(), i + 8))));
         }
         return answer;
+    }
+
+    /** Passes so many days, of which a call takes 99 at most. */
+    static void days(TeaBlends shop, int days) {
+        for (int left = days; left > 0; left -= 99) {
+            shop.pass(Math.min(left, 99));
+        }
     }
 
     /** A shop with leaves of these prices, all with the same tastes and a stock of 1000. */
