@@ -35,6 +35,7 @@ public final class EdgesOfAnswersTest {
         noCheapestToLoosen();
         keptNoMore();
         keptForFourHundredDays();
+        keptAroundTheLastDay();
         mostOfTheStocks();
         mostOfABrokenBlend();
         DUE.end();
@@ -605,6 +606,27 @@ public final class EdgesOfAnswersTest {
         DUE.due("it fades to nothing at once, within bounds", x.keepsFor(), TeaBlends.NONE);
         x.bound(1, 1, 50);
         DUE.due("50 * 109 / 1000 is 5, 50 * 10 / 1000 is 0", x.keepsFor(), 10);
+    }
+
+    private static void keptAroundTheLastDay() {
+        DUE.by("Tells in how many days the blend does not keep its bounds any more, if nothing else is done.");
+        for (int day : new int[] {0, 9990, 9998, 9999}) {
+            TeaBlends x = new TeaBlends();
+            Due.days(x, day);
+            x.leaf(1, Due.tastes(100, 0, 0), 0);
+            x.share(0, 20);
+            x.bound(0, 95, 100);
+            DUE.due("94 in 6 days, on the day " + day, x.keepsFor(), 6);
+            x.bound(0, 0, 100);
+            DUE.due("no bounds, on the day " + day, x.keepsFor(), TeaBlends.NONE);
+        }
+        TeaBlends x = new TeaBlends();
+        x.leaf(1, Due.tastes(100, 0, 0), 9999);
+        x.share(0, 20);
+        x.bound(0, 95, 100);
+        x.row(0, Due.row(1, 2, 3, 4, 5, 6, 7));
+        x.mix(9999);
+        DUE.due("prices and stocks do not matter", x.keepsFor(), 6);
     }
 
     private static void mostOfTheStocks() {

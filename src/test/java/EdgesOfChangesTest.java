@@ -27,6 +27,7 @@ public final class EdgesOfChangesTest {
         sharesInRange();
         sharesAboveTwenty();
         chosenIfThereIsOne();
+        chosenAsToldByCheapest();
         gramsToMix();
         gramsRoundedUp();
         stocksToMixFrom();
@@ -352,6 +353,31 @@ public final class EdgesOfChangesTest {
         DUE.due("the changes", x.count(13), 4);
         TWINS.unchanged(() -> bounded(34, 100), "the low bound too high", y -> y.choose(), TeaBlends.NOT_POSSIBLE);
         TWINS.unchanged(() -> bounded(0, 32), "the high bound too low", y -> y.choose(), TeaBlends.NOT_POSSIBLE);
+    }
+
+    private static void chosenAsToldByCheapest() {
+        DUE.by("The blend becomes the cheapest one (as told by cheapest()).");
+        for (int low = 0; low <= 100; low += 5) {
+            TeaBlends x = new TeaBlends();
+            for (int leaf = 0; leaf < 5; leaf++) {
+                x.leaf(7 + 31 * leaf, Due.tastes(25 * leaf, 100 - 20 * leaf, 50), 0);
+                x.share(leaf, leaf % 3);
+            }
+            x.bound(0, low, 100);
+            x.bound(1, 20, 90);
+            int[] told = new int[6];
+            for (int what = 0; what <= 5; what++) {
+                told[what] = x.cheapest(what);
+            }
+            DUE.due("at least " + low + ", choose()", x.choose(),
+                told[0] == TeaBlends.NONE ? TeaBlends.NOT_POSSIBLE : told[0]);
+            for (int leaf = 0; leaf < 5; leaf++) {
+                int due = told[0] == TeaBlends.NONE ? leaf % 3 : told[1 + leaf];
+                DUE.due("at least " + low + ", the share of the leaf " + leaf, x.of(leaf, 6), due);
+            }
+            DUE.due("at least " + low + ", it keeps its bounds", x.why() == 0 ? 1 : 0, told[0] < 0 ? 0 : 1);
+            DUE.due("at least " + low + ", chosen again", x.choose() < 0 ? 1 : 0, told[0] < 0 ? 1 : 0);
+        }
     }
 
     /** A leaf with a strength of 33 and a blend of 7 shares. */
